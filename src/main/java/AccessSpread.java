@@ -724,25 +724,34 @@ public final class AccessSpread {
 
         /** Does all steps that the rights in before (it may be this) allow, and tells whether a right came. */
         boolean doSteps(State before) {
-            int earlier = countRights();
+            boolean more = false;
             for (int p = 0; p < things; p++) {
-                if (isAwake(p)) {
-                    doStepsOf(p, before);
+                if (isAwake(p) && doStepsOf(p, before)) {
+                    more = true;
                 }
             }
-            return countRights() > earlier;
+            return more;
         }
 
-        private void doStepsOf(int p, State before) {
+        private boolean doStepsOf(int p, State before) {
             int own = before.rows[p];
+            boolean more = false;
             for (int y = 0; y < things; y++) {
                 if ((own >> MOST_THINGS * TAKE + y & 1) != 0) {
-                    rows[p] |= before.rows[y] & ~(OVER << p);
+                    more |= addRights(p, before.rows[y]);
                 }
                 if ((own >> MOST_THINGS * GIVE + y & 1) != 0) {
-                    rows[y] |= own & ~(OVER << y);
+                    more |= addRights(y, own);
                 }
             }
+            return more;
+        }
+
+        /** Leaves out the rights over x itself: the three things of a step differ. */
+        private boolean addRights(int x, int row) {
+            int earlier = rows[x];
+            rows[x] = earlier | row & ~(OVER << x);
+            return rows[x] != earlier;
         }
 
         /** Uses rights as soon as they come: rights only grow, so the end is that of the rounds. */
@@ -1019,20 +1028,13 @@ public final class AccessSpread {
 
         private boolean findTwo(State state, Spread spread, int right) {
             for (int a = 0; a < INDICES; a++) {
-                if (state.has(a) && findSecond(state, spread, a, right)) {
-                    first = a;
-                    return true;
-                }
-            }
-            return false;
-        }
-
-        private boolean findSecond(State state, Spread spread, int a, int right) {
-            for (int b = a + 1; b < INDICES; b++) {
-                boolean hurtsProof = spread.isUsed(a) || spread.isUsed(b);
-                if (hurtsProof && state.has(b) && cutsBoth(state, a, b, right)) {
-                    second = b;
-                    return true;
+                for (int b = a + 1; b < INDICES && state.has(a); b++) {
+                    boolean hurtsProof = spread.isUsed(a) || spread.isUsed(b);
+                    if (hurtsProof && state.has(b) && cutsBoth(state, a, b, right)) {
+                        first = a;
+                        second = b;
+                        return true;
+                    }
                 }
             }
             return false;

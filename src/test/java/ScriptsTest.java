@@ -61,6 +61,12 @@ public final class ScriptsTest {
         ends(x, 20123, false);
         ends(x, 20243, false);
         ends(x, 20220, false);
+        // 4 is no right, though the thing behind 1 has the right 0 over 3
+        AccessSpread many = Checks.loaded("Rpbbbbbb/0t12t31r50g62t50r1");
+        ends(many, 10143, false);
+        ends(many, 10125, true);
+        ends(many, 20621, true);
+        ends(many, 20641, false);
         Checks.due("a take is done", x.runScript(2, 10122 * BASE + 60220), NONE);
         Checks.due("without it", x.runScript(1, 60220), 0);
         Checks.due("a give is done", x.runScript(2, 20223 * BASE + 62230), NONE);

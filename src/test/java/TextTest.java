@@ -8,6 +8,7 @@ public final class TextTest {
         newObject();
         appendAndClear();
         errorPositions();
+        endsTooSoon();
         thirtyRights();
         load();
         Checks.end();
@@ -93,6 +94,18 @@ public final class TextTest {
         errorAt("Rpp/0t1p", 7);
         errorAt("Rpp/0t10g10r10w11t01g01r01w0", NONE);
         errorAt("Rpp/0t10g10r10w11t01g01r01w00t1", 30);
+    }
+
+    /** What stood in the buffer before is no part of the text. */
+    private static void endsTooSoon() {
+        AccessSpread x = new AccessSpread();
+        String whole = "Rpps/0t11w0";
+        int[] want = {0, NONE, NONE, NONE, NONE, 5, 6, 7, NONE, 9, 10, NONE};
+        for (int length = 0; length <= whole.length(); length++) {
+            Checks.write(x, whole);
+            Checks.write(x, whole.substring(0, length));
+            Checks.due("errorPosition of " + whole.substring(0, length), x.errorPosition(), want[length]);
+        }
     }
 
     private static void thirtyRights() {
