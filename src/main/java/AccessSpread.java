@@ -737,11 +737,11 @@ public final class AccessSpread {
             int own = before.rows[p];
             boolean more = false;
             for (int y = 0; y < things; y++) {
-                if ((own >> MOST_THINGS * TAKE + y & 1) != 0) {
-                    more |= addRights(p, before.rows[y]);
+                if ((own >> MOST_THINGS * TAKE + y & 1) != 0 && addRights(p, before.rows[y])) {
+                    more = true;
                 }
-                if ((own >> MOST_THINGS * GIVE + y & 1) != 0) {
-                    more |= addRights(y, own);
+                if ((own >> MOST_THINGS * GIVE + y & 1) != 0 && addRights(y, own)) {
+                    more = true;
                 }
             }
             return more;
