@@ -340,13 +340,13 @@ public final class ScriptEdgeTest {
         Checks.due("three things", Checks.loaded("Rppp/0t10g11t21t0").simulate(5, 99) > 100, true);
     }
 
-    /** With seven things the third one of a step is each of them in turn; all seven with each pair of the two others. */
+    /** Seeds are tried until each thing has been z with each two others as p and y. */
     private static void thingBesideTheTwo() {
         Checks.sentence("z is the thing r / 128 % (N - 2) of those that are neither p nor y, ascending, from 0 on");
         for (int n = 3; n <= 7; n++) {
             boolean[] isSeen = new boolean[n * n * n];
             int count = 0;
-            for (long seed = 0; count < n * (n - 1) * (n - 2); seed++) {
+            for (long seed = 0; count < n * (n - 1) * (n - 2) && seed < 100000; seed++) {
                 int[] step = stepOf(xOf(seed, 1), n);
                 int which = (step[1] * n + step[2]) * n + step[4];
                 if (!isSeen[which]) {
@@ -356,6 +356,7 @@ public final class ScriptEdgeTest {
                     Checks.due(of, readyFor(step, n).simulate(seed, 1), 103);
                 }
             }
+            Checks.due("all threes of " + n, count, n * (n - 1) * (n - 2));
         }
     }
 
