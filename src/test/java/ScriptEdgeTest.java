@@ -132,10 +132,7 @@ public final class ScriptEdgeTest {
                 if (group % 300 == 0) {
                     x = Checks.loaded(text);
                 }
-                boolean isSlow = group >= 70000 && group < 90000 && group % 7 != 0;
-                if (!isSlow) {
-                    Checks.due("group " + group + " of " + text, x.runScript(1, group), Model.runScript(state, 1, group));
-                }
+                Checks.due("group " + group + " of " + text, x.runScript(1, group), Model.runScript(state, 1, group));
             }
         }
     }
